@@ -18,6 +18,8 @@ public final class AccountPromisesTest {
         promise38Undo();
         promise38EveryChange();
         promise39And40SaveAndRestore();
+        promise40RestoresEveryNumber();
+        promise2NewRowsBeginAnew();
         Check.end();
     }
 
@@ -396,5 +398,114 @@ public final class AccountPromisesTest {
         x.addGuest(0, 1, 1, 0, 9);
         Check.due("40: the newer one", 0, x::restore);
         Check.due("40: without lifts", 0, () -> x.count(0));
+    }
+
+    private static SlopeOperator busyArea() {
+        SlopeOperator x = new SlopeOperator();
+        x.addLift(2, 3, 1, 2, 1, 41);
+        x.addPiste(2, 4, 2, 6);
+        x.addPiste(4, 2, 3, 5);
+        x.addGuest(2, 1, 2, 0, 7);
+        x.addGuest(2, 2, 3, 0, 8);
+        x.addGuest(2, 3, 15, 0, 9);
+        x.queue(0, 0);
+        x.queue(1, 0);
+        x.ski(2, 0);
+        x.open(1, false);
+        x.advance(4);
+        x.groom(1);
+        x.setWind(5);
+        x.advance(1);
+        x.open(1, false);
+        x.groom(1);
+        Check.refused("40: a refusal", UnsupportedOperationException.class, () -> x.ski(1, 0));
+        return x;
+    }
+
+    private static String allNumbers(SlopeOperator x) {
+        StringBuilder all = new StringBuilder();
+        for (int k = 0; k < 12; k++) {
+            all.append(x.count(k)).append(' ');
+        }
+        for (int i = 0; i < x.count(0); i++) {
+            for (int k = 0; k < 11; k++) {
+                all.append(x.lift(i, k)).append(' ');
+            }
+            all.append(x.liftAccount(i, 0)).append(' ').append(x.liftAccount(i, 1)).append(", ");
+        }
+        for (int i = 0; i < x.count(1); i++) {
+            for (int k = 0; k < 8; k++) {
+                all.append(x.piste(i, k)).append(' ');
+            }
+            all.append(x.pisteAccount(i)).append(", ");
+        }
+        for (int i = 0; i < x.count(2); i++) {
+            for (int k = 0; k < 7; k++) {
+                all.append(x.guest(i, k)).append(' ');
+            }
+            for (int k = 0; k < 3; k++) {
+                all.append(x.guestAccount(i, k)).append(' ');
+            }
+            all.append(", ");
+        }
+        return all.toString();
+    }
+
+    private static final String BUSY = "1 2 3 5 5 0 0 0 2 1 0 1 2 3 1 2 1 4 1 1 1 0 2 2 2, "
+            + "2 4 2 6 0 2 0 1 1, 4 2 3 5 2 0 1 0 0, 2 0 3 1 2 0 7 1 0 0 , 2 0 7 2 3 0 8 1 0 1 , 3 0 1 3 15 0 9 0 1 0 , ";
+
+    private static void promise40RestoresEveryNumber() {
+        SlopeOperator x = busyArea();
+        Check.due("40: every number at first", BUSY, () -> allNumbers(x));
+        Check.due("39: three guests", 3, x::save);
+        x.clear();
+        otherArea(x);
+        Check.due("40: three guests", 3, x::restore);
+        Check.due("40: every number is restored", BUSY, () -> allNumbers(x));
+        x.setWind(0);
+        otherEnd(x);
+        for (int left = 7; left >= 0; left--) {
+            x.undo();
+        }
+        Check.due("38: every number is back", BUSY, () -> allNumbers(x));
+    }
+
+    private static void otherArea(SlopeOperator x) {
+        for (int i = 0; i < 3; i++) {
+            x.addLift(7, 6, 3, 1, 8, 90);
+            x.addPiste(7, 5, 1, 9);
+            x.addGuest(7, 2, 8, 0, 1);
+            x.addGuest(7, 2, 8, 0, 1);
+        }
+        x.queue(1, 0);
+        x.ski(2, 1);
+        x.setWind(3);
+        x.advance(9);
+    }
+
+    /** 7 changes, which touch every lift, piste and guest of the busy area. */
+    private static void otherEnd(SlopeOperator x) {
+        x.advance(9);
+        x.ski(2, x.addPiste(4, 5, 1, 1));
+        x.open(0, false);
+        x.groom(0);
+        x.endDay();
+        x.addGuest(1, 1, 1, 1, 1);
+    }
+
+    private static void promise2NewRowsBeginAnew() {
+        SlopeOperator x = busyArea();
+        x.addGuest(2, 1, 15, 0, 9);
+        x.queue(3, 0);
+        x.clear();
+        x.addLift(0, 1, 0, 6, 1, 10);
+        x.addPiste(0, 1, 1, 1);
+        x.addPiste(0, 1, 1, 1);
+        for (int g = 0; g < 4; g++) {
+            x.addGuest(0, 1, 0, 0, 0);
+        }
+        Check.due("2: new rows have nothing of the old ones", "1 2 4 0 0 0 4 0 0 0 0 2 0 1 0 6 1 1 0 0 0 0 0 0 0, "
+                + "0 1 1 1 0 0 0 0 0, 0 1 1 1 0 0 0 0 0, 0 0 0 1 0 0 0 0 0 0 , 0 0 0 1 0 0 0 0 0 0 , "
+                + "0 0 0 1 0 0 0 0 0 0 , 0 0 0 1 0 0 0 0 0 0 , ", () -> allNumbers(x));
     }
 }

@@ -300,8 +300,10 @@ public final class AreaPromisesTest {
             }
             y.ski(g, 0);
         }
+        Check.refused("8: wear 20 is too much", STATE, () -> y.open(0, true));
         y.advance(1);
         Check.due("9: wear 20 closes", 1, () -> y.piste(0, 4));
+        Check.refused("8: wear 20 is too much when closed", STATE, () -> y.open(0, true));
     }
 
     private static void promise10Count() {

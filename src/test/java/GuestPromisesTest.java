@@ -214,6 +214,9 @@ public final class GuestPromisesTest {
         Check.due("15: without a place", 0, () -> x.guest(2, 2));
         Check.due("15: the one before stays", 0, () -> x.guest(1, 2));
         Check.due("15: the one behind moves up", 1, () -> x.guest(3, 2));
+        x.queue(2, 0);
+        Check.due("15: the last of the queue", 0, () -> x.leave(2));
+        Check.due("15: the others stay", 1, () -> x.guest(3, 2));
         Check.due("15: away", 4, () -> x.leave(2));
         Check.due("15: nowhere", -1, () -> x.guest(2, 1));
         Check.refused("15: away already", STATE, () -> x.leave(2));
@@ -221,6 +224,14 @@ public final class GuestPromisesTest {
         Check.due("15: guest -1", "IndexOutOfBoundsException", () -> x.leave(-1));
         Check.due("15: undone", 7, x::undo);
         Check.due("15: back at the station", 0, () -> x.guest(5, 0));
+        x.clear();
+        x.addLift(3, 1, 0, 1, 1, 90);
+        x.addGuest(3, 1, 1, 0, 0);
+        x.addGuest(3, 1, 1, 0, 0);
+        x.queue(1, 0);
+        x.queue(0, 0);
+        Check.due("15: the first of the queue", 0, () -> x.leave(1));
+        Check.due("15: the lower number behind moves up", 0, () -> x.guest(0, 2));
     }
 
     private static void promise16WhyNotQueue() {

@@ -115,6 +115,10 @@ public final class TickPromisesTest {
         Check.due("22: the accounts stay", 1, () -> x.liftAccount(0, 0));
         Check.due("22: and the guest's", 1, () -> x.guestAccount(0, 0));
         Check.due("22: nobody is left", 0, x::endDay);
+        x.open(0, false);
+        x.groom(0);
+        x.endDay();
+        Check.due("22: the first piste is groomed", 0, () -> x.piste(0, 4));
     }
 
     private static void promise22LastDay() {
@@ -353,5 +357,14 @@ public final class TickPromisesTest {
         Check.due("25: down a chain", 63, () -> chain.duration(0, 7, 0));
         Check.due("28: up a chain", 0, () -> chain.stranded(0, 0));
         Check.due("28: to the top", 127, () -> chain.stranded(0, 7));
+        SlopeOperator other = new SlopeOperator();
+        other.addGuest(0, 1, 15, 0, 0);
+        for (int s = 1; s < 8; s++) {
+            other.addPiste(s, s - 1, 1, 9);
+        }
+        Check.due("27: down a chain that was made from below", 255, () -> other.reachable(0, 7));
+        Check.due("25: down it", 63, () -> other.duration(0, 7, 0));
+        Check.due("26: down it", 106, () -> other.firstPart(0, 7, 0));
+        Check.due("28: up it", 0, () -> other.stranded(0, 0));
     }
 }
