@@ -407,7 +407,7 @@ public final class AccountPromisesTest {
         x.addPiste(4, 2, 3, 5);
         x.addGuest(2, 1, 2, 0, 7);
         x.addGuest(2, 2, 3, 0, 8);
-        x.addGuest(2, 3, 15, 0, 9);
+        x.addGuest(2, 3, 15, 3, 9);
         x.queue(0, 0);
         x.queue(1, 0);
         x.ski(2, 0);
@@ -452,7 +452,7 @@ public final class AccountPromisesTest {
     }
 
     private static final String BUSY = "1 2 3 5 5 0 0 0 2 1 0 1 2 3 1 2 1 4 1 1 1 0 2 2 2, "
-            + "2 4 2 6 0 2 0 1 1, 4 2 3 5 2 0 1 0 0, 2 0 3 1 2 0 7 1 0 0 , 2 0 7 2 3 0 8 1 0 1 , 3 0 1 3 15 0 9 0 1 0 , ";
+            + "2 4 2 6 0 2 0 1 1, 4 2 3 5 2 0 1 0 0, 2 0 3 1 2 0 7 1 0 0 , 2 0 7 2 3 0 8 1 0 1 , 3 0 1 3 15 3 9 0 1 0 , ";
 
     private static void promise40RestoresEveryNumber() {
         SlopeOperator x = busyArea();
