@@ -579,7 +579,12 @@ public final class SlopeOperator {
             case 'g': return addGuestByText(number, target);
             case 'q': return queueByText(number, target);
             case 's': return skiByText(number, target);
-            case 't': return advanceByText(number);
+            case 't':
+                if (now.tick + number > LAST_TICK) {
+                    return ENTRY_IMPOSSIBLE;
+                }
+                now.passTicks(number);
+                return ENTRY_DONE;
             case 'w':
                 now.wind = number;
                 return ENTRY_DONE;
@@ -620,14 +625,6 @@ public final class SlopeOperator {
             return refusal;
         }
         now.startPiste(who, which, piste);
-        return ENTRY_DONE;
-    }
-
-    private int advanceByText(int ticks) {
-        if (now.tick + ticks > LAST_TICK) {
-            return ENTRY_IMPOSSIBLE;
-        }
-        now.passTicks(ticks);
         return ENTRY_DONE;
     }
 
@@ -998,22 +995,17 @@ public final class SlopeOperator {
             return guest.rest;
         }
 
+        /** The order of the steps of a tick is the document's. */
         int passTicks(int ticks) {
             int arrived = 0;
             for (int i = 0; i < ticks; i++) {
-                arrived += passTick();
+                arrived += moveRiders();
+                arrived += moveSkiers();
+                turnLifts();
+                groomPistes();
+                closeWornPistes();
+                tick++;
             }
-            return arrived;
-        }
-
-        private int passTick() {
-            int arrived = moveRiders() + moveSkiers();
-            for (int i = 0; i < liftCount; i++) {
-                turn(lifts[i], i);
-            }
-            groomPistes();
-            closeWornPistes();
-            tick++;
             return arrived;
         }
 
@@ -1050,12 +1042,15 @@ public final class SlopeOperator {
         }
 
         /** One departure a tick is enough: the clock grows by no more than the shortest interval takes. */
-        private void turn(Lift lift, int number) {
-            lift.clock += speedOf(lift);
-            if (lift.stepsToCabin(1) <= 0) {
-                lift.clock -= 2 * lift.interval;
-                lift.cabins++;
-                boardCabin(lift, number);
+        private void turnLifts() {
+            for (int i = 0; i < liftCount; i++) {
+                Lift lift = lifts[i];
+                lift.clock += speedOf(lift);
+                if (lift.stepsToCabin(1) <= 0) {
+                    lift.clock -= 2 * lift.interval;
+                    lift.cabins++;
+                    boardCabin(lift, i);
+                }
             }
         }
 
