@@ -51,7 +51,8 @@ public final class SlopeOperator {
 
     /** Longer than every way, and short enough to add to it without wrapping around. */
     private static final int NO_WAY = 1000000;
-    private static final int NEVER = -1;
+    /** No guest, lift, part, digit or number of ticks is like this. */
+    private static final int NONE = -1;
     private static final int NOTHING_KEPT = -1;
 
     private final Area now;
@@ -140,6 +141,7 @@ public final class SlopeOperator {
             case 4: return which.capacity;
             case 5: return which.ride;
             case 6: return which.exposure;
+            // The states count the other way round: 0 for the full speed.
             case 7: return FULL_SPEED - now.speedOf(which);
             case 8: return which.clock;
             case 9: return now.guestsWith(IN_QUEUE, lift);
@@ -331,7 +333,7 @@ public final class SlopeOperator {
             throw new IndexOutOfBoundsException("no such lift");
         }
         int guest = now.guestInQueue(lift, place);
-        if (guest == NEVER) {
+        if (guest == NONE) {
             throw new NoSuchElementException("no such place in the queue");
         }
         return guest;
@@ -362,7 +364,7 @@ public final class SlopeOperator {
             throw new IndexOutOfBoundsException("no such guest");
         }
         int ticks = now.ticksToStation(who);
-        if (ticks == NEVER || ticks > ARRIVAL_HORIZON) {
+        if (ticks == NONE || ticks > ARRIVAL_HORIZON) {
             throw new NoSuchElementException("the guest does not come to a station");
         }
         return ticks;
@@ -399,8 +401,8 @@ public final class SlopeOperator {
             throw new IndexOutOfBoundsException("no such guest or station");
         }
         ways.measure(now, who, to);
-        int part = from == to ? NEVER : ways.bestPartFrom(now, who, from);
-        if (part == NEVER) {
+        int part = from == to ? NONE : ways.bestPartFrom(now, who, from);
+        if (part == NONE) {
             throw new NoSuchElementException("there is no way");
         }
         return part;
@@ -462,7 +464,7 @@ public final class SlopeOperator {
 
     public int busiest() throws NoSuchElementException {
         int lift = now.liftWithMostRiders();
-        if (lift == NEVER) {
+        if (lift == NONE) {
             throw new NoSuchElementException("no guest rode");
         }
         return lift;
@@ -928,12 +930,12 @@ public final class SlopeOperator {
                     return i;
                 }
             }
-            return NEVER;
+            return NONE;
         }
 
         int welcome(int station, int skill, int zones, int first, int last) {
             if (guestCount >= MOST_GUESTS) {
-                return NEVER;
+                return NONE;
             }
             guests[guestCount].begin(station, skill, zones, first, last);
             guestCount++;
@@ -1115,20 +1117,20 @@ public final class SlopeOperator {
                 case SKIING: return guest.rest;
                 case RIDING: return ticksOnLift(liftAt(guest.where), guest.rest);
                 case IN_QUEUE: return ticksFromQueue(liftAt(guest.where), guest.place);
-                default: return NEVER;
+                default: return NONE;
             }
         }
 
         private int ticksOnLift(Lift lift, int rest) {
             if (lift == null || isHeld(lift)) {
-                return NEVER;
+                return NONE;
             }
             return ticksFor(rest, speedOf(lift));
         }
 
         private int ticksFromQueue(Lift lift, int place) {
             if (lift == null || isHeld(lift) || lift.capacity < 1) {
-                return NEVER;
+                return NONE;
             }
             int cabin = 1 + place / lift.capacity;
             return ticksFor(lift.stepsToCabin(cabin), speedOf(lift)) + ticksOnLift(lift, lift.restOfRide());
@@ -1151,7 +1153,7 @@ public final class SlopeOperator {
         }
 
         int liftWithMostRiders() {
-            int best = NEVER;
+            int best = NONE;
             int most = 0;
             for (int i = 0; i < liftCount; i++) {
                 if (lifts[i].riders > most) {
@@ -1217,7 +1219,7 @@ public final class SlopeOperator {
         int bestPartFrom(Area area, Guest guest, int station) {
             int least = durationFrom(station);
             if (least >= NO_WAY) {
-                return NEVER;
+                return NONE;
             }
             for (int i = 0; i < area.liftCount; i++) {
                 Lift lift = area.lifts[i];
@@ -1233,7 +1235,7 @@ public final class SlopeOperator {
                     return FIRST_PISTE_PART + i;
                 }
             }
-            return NEVER;
+            return NONE;
         }
 
         int stationsWithoutWay() {
@@ -1333,15 +1335,17 @@ public final class SlopeOperator {
 
         boolean isText() {
             cursor = 0;
-            for (entries = 0; entries < MOST_ENTRIES; entries++) {
-                if (entries > 0 && cursor == length) {
-                    return true;
-                }
+            entries = 0;
+            for (int i = 0; i < MOST_ENTRIES; i++) {
                 if (!takeEntry()) {
                     return false;
                 }
+                entries++;
+                if (cursor == length) {
+                    return true;
+                }
             }
-            return cursor == length;
+            return false;
         }
 
         boolean takeEntry() {
@@ -1382,7 +1386,7 @@ public final class SlopeOperator {
 
         private int takeDigit(char lowest, char highest) {
             if (!isHere(lowest, highest)) {
-                return NEVER;
+                return NONE;
             }
             int digit = text[cursor] - '0';
             cursor++;
@@ -1391,12 +1395,12 @@ public final class SlopeOperator {
 
         private boolean takeNumber(char lowest, char highest) {
             number = takeDigit(lowest, highest);
-            return number != NEVER;
+            return number != NONE;
         }
 
         private boolean takeTarget(char lowest, char highest) {
             target = takeDigit(lowest, highest);
-            return target != NEVER;
+            return target != NONE;
         }
 
         /** Only a 1 can have a second digit, as guests are 0 to 15 without leading zeros. */
@@ -1404,8 +1408,8 @@ public final class SlopeOperator {
             if (!takeNumber('0', '9')) {
                 return false;
             }
-            int second = number == 1 ? takeDigit('0', '5') : NEVER;
-            if (second != NEVER) {
+            int second = number == 1 ? takeDigit('0', '5') : NONE;
+            if (second != NONE) {
                 number = 10 + second;
             }
             return true;

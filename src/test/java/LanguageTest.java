@@ -2,9 +2,14 @@ import java.io.ByteArrayInputStream;
 import java.io.DataInputStream;
 import java.io.IOException;
 import java.io.InputStream;
+import java.lang.reflect.Field;
+import java.lang.reflect.Method;
+import java.lang.reflect.Modifier;
 import java.nio.charset.StandardCharsets;
 import java.nio.file.Files;
 import java.nio.file.Path;
+import java.util.ArrayList;
+import java.util.List;
 import java.util.Set;
 import java.util.TreeSet;
 import java.util.regex.Matcher;
@@ -28,6 +33,9 @@ public final class LanguageTest {
         Check.due("static fields are constants", "[]", () -> all(source, "static (?!final|int \\w+\\(|boolean \\w+\\()[^;{]*;")
                 .toString());
         Check.due("no method is longer than 60 lines", true, () -> longestMethod(source) <= 60);
+        Check.due("lines that make an object outside constructors, but for exceptions", "[]",
+                () -> makersOutsideConstructors(source).toString());
+        Check.due("classes, fields and parameters beyond rule 11", "[]", () -> beyondBounds().toString());
         Check.due("classes of the library", "[java/lang/ArithmeticException, java/lang/IllegalArgumentException, "
                 + "java/lang/IllegalStateException, java/lang/IndexOutOfBoundsException, java/lang/Math, java/lang/Object, "
                 + "java/lang/UnsupportedOperationException, java/util/NoSuchElementException]",
@@ -56,6 +64,34 @@ public final class LanguageTest {
             longest = Math.max(longest, m.group().split("\n").length);
         }
         return longest;
+    }
+
+    /** So that the room of a run is that of the rows which the constructors make, whatever is called. */
+    private static List<String> makersOutsideConstructors(String source) {
+        String methods = source.replaceAll("(?ms)^( {4}(public )?| {8})[A-Z]\\w+\\(\\) \\{\\n.*?^( {8}| {4})\\}\\n(?=\\n)", "");
+        return methods.lines().filter(line -> line.contains("new ") && !line.contains("throw new ")).toList();
+    }
+
+    private static List<String> beyondBounds() {
+        List<String> beyond = new ArrayList<>();
+        List<Class<?>> classes = new ArrayList<>(List.of(SlopeOperator.class.getDeclaredClasses()));
+        classes.add(SlopeOperator.class);
+        if (classes.size() > 12) {
+            beyond.add(classes.size() + " classes");
+        }
+        for (Class<?> one : classes) {
+            List<Field> fields = new ArrayList<>(List.of(one.getDeclaredFields()));
+            fields.removeIf(field -> Modifier.isStatic(field.getModifiers()));
+            if (fields.size() > 20) {
+                beyond.add(one.getName() + " has " + fields.size() + " fields");
+            }
+            for (Method method : one.getDeclaredMethods()) {
+                if (method.getParameterCount() > 7) {
+                    beyond.add(method.toString());
+                }
+            }
+        }
+        return beyond;
     }
 
     private static Set<String> libraryClasses() {
